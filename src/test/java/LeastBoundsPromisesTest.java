@@ -454,6 +454,33 @@ public final class LeastBoundsPromisesTest {
         int before = z.told(2);
         noState("made of 101", () -> z.lower(outer, z.named(1, 0, 0)));
         is("none is new", z.told(2), before);
+        int under = 8;
+        for (int i = 0; i < 98; i++) {
+            under = z.named(3, 2, under);
+        }
+        is("99 deep", z.lower(outer, under), under);
+        is("99 deep, the other way round", z.lower(under, outer), under);
+        promise7LowerBothBelow();
+    }
+
+    /** Two parts that are BELOW one another, but not alike: each is one of the others that is BELOW the other one. */
+    private static void promise7LowerBothBelow() {
+        LeastBounds x = new LeastBounds(1);
+        x.declare(true, false);
+        x.declare(true, false);
+        int face = x.named(14, 0, 0);
+        int both = x.lower(x.named(13, 0, 0), face);
+        x.above(13, NONE);
+        int one = x.named(3, 2, face);
+        int other = x.named(3, 2, both);
+        is("below", x.isBelow(one, other), true);
+        is("and above", x.isBelow(other, one), true);
+        is("the first of two", x.lower(one, other), one);
+        is("the first of two, the other way round", x.lower(other, one), other);
+        int clones = x.named(1, 0, 0);
+        int writes = x.named(2, 0, 0);
+        int bound = x.lower(x.lower(one, clones), x.lower(other, writes));
+        is("neither stays", bound, x.lower(clones, writes));
     }
 
     private static void promise8IsBelow() {

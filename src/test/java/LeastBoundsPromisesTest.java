@@ -1,12 +1,5 @@
-import java.util.function.IntSupplier;
-
 /** The document's promises one by one: ordinary inputs, the edges that it names, wrong inputs. */
-public final class LeastBoundsPromisesTest {
-    private static final int NONE = LeastBounds.NONE, PARAMETER = LeastBounds.PARAMETER;
-    private static final int BEYOND = Integer.MAX_VALUE, BEFORE = Integer.MIN_VALUE;
-    private static int wrong = 0;
-    private static int checks = 0;
-
+public final class LeastBoundsPromisesTest extends Checks {
     public static void main(String[] args) {
         promise1NewObject();
         promise2Declare();
@@ -32,53 +25,7 @@ public final class LeastBoundsPromisesTest {
         promise16Direct();
         promise17Told();
         wholeLife();
-        System.out.println(checks + " checks, " + wrong + " wrong");
-        if (wrong != 0) {
-            System.exit(1);
-        }
-    }
-
-    private static void is(String what, int got, int want) {
-        checks++;
-        if (got != want) {
-            wrong++;
-            System.out.println(what + " answered " + got + ", due is " + want);
-        }
-    }
-
-    private static void is(String what, boolean got, boolean want) {
-        is(what, got ? 1 : 0, want ? 1 : 0);
-    }
-
-    private static void refuses(String what, Class<?> want, IntSupplier call) {
-        checks++;
-        String got;
-        try {
-            got = "answered " + call.getAsInt();
-        } catch (RuntimeException e) {
-            if (e.getClass() == want) {
-                return;
-            }
-            got = "threw " + e;
-        }
-        wrong++;
-        System.out.println(what + " " + got + ", due is " + want.getSimpleName());
-    }
-
-    private static void noIndex(String what, IntSupplier call) {
-        refuses(what, IndexOutOfBoundsException.class, call);
-    }
-
-    private static void noState(String what, IntSupplier call) {
-        refuses(what, IllegalStateException.class, call);
-    }
-
-    private static void noArgument(String what, IntSupplier call) {
-        refuses(what, IllegalArgumentException.class, call);
-    }
-
-    private static int one(boolean answer) {
-        return answer ? 1 : 0;
+        end();
     }
 
     private static void promise1NewObject() {
@@ -248,22 +195,11 @@ public final class LeastBoundsPromisesTest {
         is("made of 100", x.type(last, 5), 100);
         noState("made of 101", () -> x.array(last));
         LeastBounds y = new LeastBounds(1);
-        fill(y);
+        fill(y, 300);
         noState("a 301st type", () -> y.array(299));
         is("300 types", y.told(2), 300);
         is("one that is there", y.array(8), 16);
         noState("a 301st named type", () -> y.named(3, 2, 299));
-    }
-
-    /** Makes arrays of the types from 8 on, one after the other, until there are 300 types. */
-    private static void fill(LeastBounds x) {
-        fill(x, 300);
-    }
-
-    private static void fill(LeastBounds x, int count) {
-        for (int i = 8; x.told(2) < count; i++) {
-            x.array(i);
-        }
     }
 
     private static void promise6UpperNumbers() {
@@ -438,7 +374,7 @@ public final class LeastBoundsPromisesTest {
         LeastBounds y = new LeastBounds(1);
         int clones = y.named(1, 0, 0);
         int writes = y.named(2, 0, 0);
-        fill(y);
+        fill(y, 300);
         noState("a 301st type", () -> y.lower(clones, writes));
         is("none where there is none", y.lower(9, 10), NONE);
         is("one that is there", y.lower(9, writes), 9);
@@ -610,7 +546,7 @@ public final class LeastBoundsPromisesTest {
 
         LeastBounds z = new LeastBounds(1);
         z.named(0, 0, 0);
-        fill(z);
+        fill(z, 300);
         noState("a 301st type", () -> z.look(10, 3));
         is("one that is there", z.look(10, 0), 16);
         is("none", z.look(10, 1), NONE);
@@ -789,19 +725,6 @@ public final class LeastBoundsPromisesTest {
             onlyTold(() -> x.array(a));
             onlyTold(() -> x.box(a));
             onlyTold(() -> x.told(a));
-        }
-    }
-
-    private static void onlyTold(IntSupplier call) {
-        checks++;
-        try {
-            call.getAsInt();
-        } catch (RuntimeException e) {
-            Class<?> kind = e.getClass();
-            if (kind != IndexOutOfBoundsException.class && kind != IllegalArgumentException.class && kind != IllegalStateException.class) {
-                wrong++;
-                System.out.println("a call threw " + e);
-            }
         }
     }
 }

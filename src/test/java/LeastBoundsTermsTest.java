@@ -1,3 +1,7 @@
+import java.lang.reflect.Method;
+import java.lang.reflect.Modifier;
+import java.util.ArrayList;
+import java.util.Collections;
 import java.util.List;
 import java.util.function.Supplier;
 import java.util.function.ToIntFunction;
@@ -8,6 +12,7 @@ public final class LeastBoundsTermsTest extends Checks {
         ARGUMENT = IllegalArgumentException.class;
 
     public static void main(String[] args) {
+        publicFace();
         usedFor512Calls();
         thirtyClasses();
         sixGenericClasses();
@@ -79,6 +84,45 @@ public final class LeastBoundsTermsTest extends Checks {
         while (x.told(0) < upTo) {
             x.declare(true, false);
         }
+    }
+
+    private static void publicFace() {
+        sentence("public final class LeastBounds {");
+        String index = " IndexOutOfBoundsException";
+        String state = " IllegalStateException";
+        String argument = " IllegalArgumentException";
+        List<String> due = new ArrayList<>(List.of("int declare(boolean, boolean)" + state, "int above(int, int)" + index + state + argument,
+            "int named(int, int, int)" + index + argument + state, "int array(int)" + index + state, "int upper(int, int)" + index + state,
+            "int lower(int, int)" + index + state, "boolean isBelow(int, int)" + index, "int look(int, int)" + index + state,
+            "int box(int)" + index + state, "int type(int, int)" + index + argument, "int part(int, int)" + index,
+            "int common(int, int, int)" + index + argument, "boolean isUnder(int, int)" + index, "int classed(int, int)" + index + argument,
+            "int direct(int, int, int)" + index + argument, "int told(int)" + argument));
+        List<String> got = new ArrayList<>();
+        for (Method method : LeastBounds.class.getDeclaredMethods()) {
+            if (!Modifier.isPrivate(method.getModifiers())) {
+                got.add(faceOf(method));
+            }
+        }
+        Collections.sort(due);
+        Collections.sort(got);
+        same("the methods", got.toString(), due.toString());
+        is("public and final", LeastBounds.class.getModifiers(), Modifier.PUBLIC | Modifier.FINAL);
+        is("one constructor", LeastBounds.class.getDeclaredConstructors().length, 1);
+        is("two constants", LeastBounds.class.getFields().length, 2);
+        is("NONE", NONE, -1);
+        is("PARAMETER", PARAMETER, -2);
+    }
+
+    private static String faceOf(Method method) {
+        StringBuilder face = new StringBuilder(method.getReturnType() + " " + method.getName() + "(");
+        for (Class<?> type : method.getParameterTypes()) {
+            face.append(face.charAt(face.length() - 1) == '(' ? "" : ", ").append(type);
+        }
+        face.append(')');
+        for (Class<?> thrown : method.getExceptionTypes()) {
+            face.append(' ').append(thrown.getSimpleName());
+        }
+        return face.toString();
     }
 
     private static void usedFor512Calls() {
@@ -176,6 +220,10 @@ public final class LeastBoundsTermsTest extends Checks {
         is("thirteen", x.told(0), 13);
         int[][] directs = {{}, {0}, {0}, {0}, {0, 2}, {0, 2, 3}, {4, 2, 3}, {4, 2, 3}, {0, 2, 3}, {4, 2, 3}, {4, 2, 3}, {4, 2, 3}, {4, 2, 3}};
         for (int named = 0; named < 13; named++) {
+            if (named == NUMBER) {
+                sentence("4 NUMBER, a class below ROOT and WRITES; the BOXES 5 .. 12, of the primitives 0 .. 7: classes, 5 and 8 "
+                    + "below ROOT, the others below NUMBER; each below WRITES, and below COMPARES with itself as ARGUMENT.");
+            }
             is("face " + named, x.classed(named, 0), one(named >= 1 && named <= 3));
             is("generic " + named, x.classed(named, 1), one(named == COMPARES));
             is("directly above " + named, x.classed(named, 2), directs[named].length);
@@ -687,8 +735,10 @@ public final class LeastBoundsTermsTest extends Checks {
         is("of fifteen", x.type(bound, 4), 15);
         is("least", x.common(types[0], types[1], 1), 15);
         is("root is not least", x.common(types[0], types[1], 0), 16);
+        sentence("of each of these, by numbers, a NAMED type: without ARGUMENT, if it is not GENERIC");
         for (int i = 0; i < 15; i++) {
             is("by numbers", x.type(x.part(bound, i), 1), 13 + i);
+            is("without argument", x.type(x.part(bound, i), 2), 0);
         }
         is("one is none", x.type(x.upper(bound, x.part(bound, 3)), 0), 1);
         is("made of", x.type(bound, 5), 16);

@@ -665,7 +665,7 @@ public final class LeastBounds {
 
         Types() {
             for (int i = 0; i < PRIMITIVES; i++) {
-                add(PRIMITIVE, 1);
+                append(PRIMITIVE, 1);
             }
             for (int i = 0; i < PRIMITIVES; i++) {
                 makeNamed(FIRST_BOX + i, WITHOUT);
@@ -736,7 +736,7 @@ public final class LeastBounds {
                     return type;
                 }
             }
-            int type = add(NAMED, 1 + sizeOf(typeOf(argument)));
+            int type = append(NAMED, 1 + sizeOf(typeOf(argument)));
             if (type != NONE) {
                 named[type] = ofClass;
                 arguments[type] = argument;
@@ -752,7 +752,7 @@ public final class LeastBounds {
                     return type;
                 }
             }
-            int type = add(ARRAY, 1 + sizeOf(element));
+            int type = append(ARRAY, 1 + sizeOf(element));
             if (type != NONE) {
                 elements[type] = element;
             }
@@ -775,7 +775,7 @@ public final class LeastBounds {
             if (known != NONE) {
                 return known;
             }
-            int type = add(INTERSECTION, size);
+            int type = append(INTERSECTION, size);
             if (type != NONE) {
                 appendParts(type, from, start, many);
             }
@@ -811,7 +811,7 @@ public final class LeastBounds {
         }
 
         /** One more type, as yet without class, ARGUMENT, ELEMENT and PARTS; NONE if it would be too much. */
-        private int add(int kind, int size) {
+        private int append(int kind, int size) {
             if (count >= MOST_TYPES || size > MOST_MADE_OF) {
                 return NONE;
             }
